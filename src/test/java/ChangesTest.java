@@ -108,6 +108,22 @@ public final class ChangesTest {
         CHECK.is("outcomes after a load", counted.office(14), 0);
         CHECK.is("the LEADER after a load", counted.replica(0, 4), -1);
         CHECK.is("the empty buffer's load()", counted.load(), -31);
+        loadAfterAnother();
+    }
+
+    /** Nothing of what was opened before is left, neither of a whole text nor of one with an error. */
+    private static void loadAfterAnother() {
+        String counts = "call 0; vote 0 0 1; vote 1 0 2; vote 2 0 3; close; break 0 0 1; break 1 0 2; break 2 0 3; "
+                + "count;";
+        for (String last : new String[] {"", " give;", " oops"}) {
+            SealedBallots x = new SealedBallots();
+            Check.load(x, FOUR + "least 1; ties 0; recounts 3; cut 0 3; down 3;" + counts + last);
+            CHECK.is("load() after another", Check.load(x, THREE + "down 1;"), 3);
+            CHECK.isSame("all after another load", Check.all(x), Check.all(Check.opened(THREE + "down 1;")));
+        }
+        SealedBallots y = Check.opened("office" + " replica 5 5;".repeat(9));
+        Check.load(y, THREE);
+        CHECK.isSame("all after a load of fewer replicas", Check.all(y), Check.all(Check.opened(THREE)));
     }
 
     private static void call() {
@@ -119,7 +135,7 @@ public final class ChangesTest {
         x.close();
         CHECK.is("call in PHASE 2", x.call(1), -2);
         x.breakSeal(0, 0, 0);
-        x.breakSeal(1, 0, 0);
+        x.breakSeal(1, 0, 1);
         x.count();
         CHECK.is("call in PHASE 3, by one who is down", x.call(3), -3);
         CHECK.is("call in PHASE 3", x.call(1), 2);
@@ -129,6 +145,7 @@ public final class ChangesTest {
         CHECK.is("NEED", x.office(9), 2);
         CHECK.is("sealed votes after a call", x.office(10), 0);
         CHECK.is("valid votes after a call", x.office(11), 0);
+        CHECK.is("spoiled votes after a call", x.office(12), 0);
         CHECK.is("the LEADER after a call", x.replica(0, 4), -1);
         CHECK.is("outcomes after a call", x.office(14), 1);
         CHECK.throwsIndex("call(-1)", () -> x.call(-1));
@@ -159,6 +176,21 @@ public final class ChangesTest {
         x.giveUp();
         x.setLink(0, 1, false);
         CHECK.is("a call that all miss", x.call(0), -4);
+
+        for (int both = 0; both < 5; both++) {
+            SealedBallots y = Check.opened("office" + " replica 5 5;".repeat(5));
+            int[] others = {(both + 1) % 5, (both + 2) % 5, (both + 3) % 5, (both + 4) % 5};
+            y.setUp(others[2], false);
+            y.setUp(others[3], false);
+            CHECK.is("call by " + both, y.call(both), 1);
+            y.giveUp();
+            y.setUp(others[0], false);
+            y.setUp(others[1], false);
+            y.setUp(others[2], true);
+            y.setUp(others[3], true);
+            CHECK.is("call, where " + both + " alone knows the TERM", y.call(others[2]), 2);
+            CHECK.is("the greatest TERM of all", y.office(15), 2);
+        }
 
         SealedBallots led = Check.opened(FOUR + "call 3; vote 0 0 1; vote 1 0 1; vote 2 0 1; vote 3 0 1; close; "
                 + "break 0 0 1; break 1 0 1; break 2 0 1; break 3 0 1; count; cut 3 0;");

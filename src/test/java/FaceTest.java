@@ -140,7 +140,8 @@ public final class FaceTest {
         CHECK.isSame("the imports", found(code, "import [^;]*;"), Set.of("import java.util.NoSuchElementException;"));
         for (String ruledOut : new String[] {"->", "::", "\\bpackage\\b", "\\btry\\b", "\\bcatch\\b", "\\bfinally\\b",
             "\\bsynchronized\\b", "\\bassert\\b", "\\bvolatile\\b", "\\bprotected\\b", "static *\\{", "TEXT *\\+",
-            "\\+ *TEXT", "\\bequals\\(", "\\bhashCode\\(", "\\btoString\\(", "Exact\\(", "\\bjava\\.(?!util\\.NoSuch)"}) {
+            "\\+ *TEXT", "\\bequals\\(", "\\bhashCode\\(", "\\btoString\\(", "Exact\\(",
+            "\\bjava\\.(?!util\\.NoSuch)"}) {
             CHECK.isSame("what rules out " + ruledOut, found(code, ruledOut), Set.of());
         }
         CHECK.isSame("the library's own functions", found(code, "\\b(Integer|Math|System|Arrays|Long)\\.[a-zA-Z]+"),

@@ -74,6 +74,7 @@ public final class NumbersTest {
         }
         SealedBallots y = Check.opened(FOUR + "cut 0 3; call 0; give; call 0; give; down 0;");
         CHECK.is("the greatest TERM of all, though its replicas are left out", y.office(15), 2);
+        CHECK.is("the greatest TERM without that of 0", Check.opened(FOUR + "down 0; call 1;").office(15), 1);
         CHECK.is("NEED of two", Check.opened("office replica 1 1; replica 1 1; call 0;").office(9), 2);
         CHECK.is("NEED of three", Check.opened(FOUR + "down 0; call 1;").office(9), 2);
         CHECK.is("NEED of four", Check.opened(FOUR + "call 1;").office(9), 3);

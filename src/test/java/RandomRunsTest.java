@@ -357,7 +357,8 @@ public final class RandomRunsTest {
             byte[] piece = java.util.Arrays.copyOfRange(bytes, i, i + 20);
             java.nio.IntBuffer fours = java.nio.ByteBuffer.wrap(piece).asIntBuffer();
             int[] f = {fours.get(0), fours.get(1), fours.get(2), fours.get(3), fours.get(4)};
-            compare("append", () -> x.append(f[0], f[1], f[2], f[3], f[4]), () -> y.append(f[0], f[1], f[2], f[3], f[4]));
+            compare("append", () -> x.append(f[0], f[1], f[2], f[3], f[4]),
+                    () -> y.append(f[0], f[1], f[2], f[3], f[4]));
             calls++;
         }
         if (isCut) {

@@ -342,6 +342,18 @@ public final class ReasonsTest {
                 + "count;");
         whyIs("no votes, ahead by AGE", z, 2, 7, 2);
         whyIs("no votes", z, 0, 5, 2);
+        SealedBallots w = voted(FOUR, 3, 3, 3, 3);
+        w.count();
+        w.setUp(3, false);
+        w.call(0);
+        w.vote(0, 0, 1);
+        w.vote(1, 0, 1);
+        w.close();
+        w.breakSeal(0, 0, 2);
+        w.breakSeal(1, 0, 2);
+        w.count();
+        whyIs("no votes, after another was chosen", w, 2, 7, 2);
+        whyIs("no votes, after another was chosen", w, 1, 5, 2);
     }
 
     private static void whyOrder() {

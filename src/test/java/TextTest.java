@@ -140,6 +140,11 @@ public final class TextTest {
         errorBehind(TWO, "calls 0;", 1);
         errorBehind(TWO, "cal 0;", 1);
         errorBehind(TWO, "chain 0;", 1);
+        errorBehind(TWO, "xall 0;", 1);
+        errorBehind(TWO, "callz 0;", 1);
+        errorBehind(TWO, "calla 0;", 1);
+        errorBehind(TWO + "down 0 ", "zzz;", 1);
+        error("zffice replica 1 1; replica 2 2;", 0, 1);
         errorBehind(TWO + "down 0; ", "replica 3 3;", 1);
         errorBehind(TWO + "down 0; ", "office", 1);
         errorBehind(TWO + "down 0 ", "0;", 1);
@@ -301,6 +306,9 @@ public final class TextTest {
         CHECK.is("seal and vote", x.office(10), 2);
         CHECK.is("the NONCE of vote", x.nonceFor(2, 1), 45);
         CHECK.is("the number of seal", x.nonceFor(1, 1), -1);
+        int number = x.sealFor(2, 77, 1);
+        CHECK.is("the number of seal", Check.opened(TWO + "replica 3 3; call 0; seal 1 " + number + ";")
+                .nonceFor(1, 2), 77);
         String counted = "office replica 9 3; replica 8 3; call 0; give; call 1; vote 0 1 45; vote 1 1 46; close; "
                 + "break 0 1 45; break 1 1 45; least 1; count; ";
         SealedBallots y = Check.opened(counted);
