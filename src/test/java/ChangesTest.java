@@ -640,42 +640,28 @@ public final class ChangesTest {
 
     /** Each kind of change, undone: all is as it was before. */
     private static void undoEachChange() {
-        SealedBallots x = toCount("");
-        String[] before = new String[10];
-        before[0] = Check.all(x);
-        x.count();
-        before[1] = Check.all(x);
-        x.recount(2);
-        before[2] = Check.all(x);
-        x.giveUp();
-        before[3] = Check.all(x);
-        x.call(1);
-        before[4] = Check.all(x);
-        x.seal(0, 7);
-        before[5] = Check.all(x);
-        x.vote(1, 2, 7);
-        before[6] = Check.all(x);
-        x.setLink(0, 2, false);
-        before[7] = Check.all(x);
-        x.setUp(2, false);
-        before[8] = Check.all(x);
-        x.setFresh(1, 3);
-        before[9] = Check.all(x);
-        Check.load(x, FOUR);
-        for (int left = 9; left >= 0; left--) {
-            CHECK.is("undo of a change", x.undo(), left);
-            CHECK.isSame("all after it", Check.all(x), before[left]);
-        }
-        SealedBallots y = new SealedBallots();
-        before[0] = Check.all(y);
-        y.close();
-        before[1] = Check.all(y);
-        y.breakSeal(0, 2, 12);
-        before[2] = Check.all(y);
-        y.set(2, 0);
-        for (int left = 2; left >= 0; left--) {
-            CHECK.is("undo of a change", y.undo(), left);
-            CHECK.isSame("all after it", Check.all(y), before[left]);
+        undoAll(() -> toCount(""), x -> x.count(), x -> x.recount(2), x -> x.giveUp(), x -> x.call(1),
+                x -> x.seal(0, 7), x -> x.vote(1, 2, 7), x -> x.setLink(0, 2, false), x -> x.setUp(2, false),
+                x -> x.setFresh(1, 3), x -> Check.load(x, FOUR));
+        undoAll(SealedBallots::new, x -> x.close(), x -> x.breakSeal(0, 2, 12), x -> x.set(2, 0));
+    }
+
+    /** Compares, for each number of changes, an object that had them all, of which the later ones are undone. */
+    private static void undoAll(Check.Maker maker, Check.Deed... changes) {
+        for (int left = changes.length - 1; left >= 0; left--) {
+            SealedBallots all = maker.make();
+            SealedBallots some = maker.make();
+            for (int i = 0; i < changes.length; i++) {
+                changes[i].on(all);
+                if (i < left) {
+                    changes[i].on(some);
+                }
+            }
+            int most = Math.min(10, all.office(17));
+            for (int undone = 1; undone <= changes.length - left; undone++) {
+                CHECK.is("undo of a change", all.undo(), most - undone);
+            }
+            CHECK.isSame("all after it", Check.all(all), Check.all(some));
         }
     }
 
@@ -705,8 +691,11 @@ public final class ChangesTest {
         x.close();
         x.breakSeal(0, 2, 11);
         x.writeVotes();
-        String kept = Check.all(x);
         x.keep(0);
+        SealedBallots other = new SealedBallots();
+        other.close();
+        other.breakSeal(0, 2, 11);
+        String kept = Check.all(other);
         CHECK.doesThrow("restore(1)", NoSuchElementException.class, () -> x.restore(1));
         Check.load(x, THREE);
         x.append(0, 0, 0, 0, 0);

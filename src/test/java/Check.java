@@ -8,7 +8,18 @@ final class Check {
         long answer();
     }
 
+    /** Makes an object in some state, the same one each time. */
+    interface Maker {
+        SealedBallots make();
+    }
+
+    /** A call on an object that is told. */
+    interface Deed {
+        long on(SealedBallots x);
+    }
+
     private static final int PIECE = 20;
+    private static final String WAITING = "office replica 7 7; replica 8 8; replica 9 9; least 4;";
 
     private final String title;
     private int done;
@@ -59,6 +70,53 @@ final class Check {
 
     void throwsArgument(String call, Call made) {
         doesThrow(call, IllegalArgumentException.class, made);
+    }
+
+    /** Checks that a deed is refused by a reason, and that nothing is different then. */
+    void refuses(String call, Maker state, int reason, Deed deed) {
+        is(call, deed.on(state.make()), -reason);
+        leavesAll(call, state, deed);
+    }
+
+    /** Checks that a call throws just this class of exception, and that nothing is different then. */
+    void throwsAndLeavesAll(String call, Maker state, Class<? extends RuntimeException> due, Deed deed) {
+        SealedBallots x = state.make();
+        doesThrow(call, due, () -> deed.on(x));
+        leavesAll(call, state, deed);
+    }
+
+    /** Compares objects with the call and objects without it; each one is used for less than 512 calls. */
+    private void leavesAll(String call, Maker state, Deed deed) {
+        SealedBallots with = prepared(state);
+        SealedBallots without = prepared(state);
+        tryOn(with, deed);
+        isSame("all after " + call, whole(with), whole(without));
+        with = prepared(state);
+        without = prepared(state);
+        tryOn(with, deed);
+        is("undo() after " + call, with.undo(), without.undo());
+        isSame("all after undo() after " + call, whole(with), whole(without));
+        with = prepared(state);
+        without = prepared(state);
+        tryOn(with, deed);
+        is("load() of what waited, after " + call, with.load(), without.load());
+        isSame("all after load() after " + call, whole(with), whole(without));
+    }
+
+    /** With a report, and with a text in the buffer that waits to be opened. */
+    private static SealedBallots prepared(Maker state) {
+        SealedBallots x = state.make();
+        x.writeVotes();
+        type(x, WAITING);
+        return x;
+    }
+
+    private static void tryOn(SealedBallots x, Deed deed) {
+        try {
+            deed.on(x);
+        } catch (RuntimeException e) {
+            return;
+        }
     }
 
     private void tellWrong(String call, String got, String due) {
@@ -125,20 +183,30 @@ final class Check {
         return report.toString();
     }
 
+    /** All that can be asked for, the report too, in one text. */
+    static String whole(SealedBallots x) {
+        StringBuilder whole = new StringBuilder(all(x));
+        whole.append(' ').append(x.office(17)).append(' ').append(x.office(18));
+        for (int index = 0; index <= 9; index++) {
+            whole.append(' ').append(x.reportByte(index));
+        }
+        return whole.toString();
+    }
+
     /** All that undo() concerns, as far as it can be asked for, in one text. */
     static String all(SealedBallots x) {
         StringBuilder all = new StringBuilder();
         for (int what = 0; what <= 16; what++) {
             all.append(x.office(what)).append(' ');
         }
-        for (int r = 0; r < x.office(0); r++) {
+        int replicas = x.office(0);
+        for (int r = 0; r < replicas; r++) {
             all.append("| ");
             for (int what = 0; what <= 9; what++) {
                 all.append(x.replica(r, what)).append(' ');
             }
-            for (int other = 0; other < x.office(0); other++) {
-                all.append(x.nonceFor(r, other)).append(' ').append(x.isLinked(r, other)).append(' ');
-                all.append(x.wouldSpoil(r, other)).append(' ');
+            for (int other = 0; other < replicas; other++) {
+                all.append(x.nonceFor(r, other)).append(' ').append(x.wouldSpoil(r, other)).append(' ');
             }
             all.append(x.why(r, 0)).append(' ').append(x.why(r, 1)).append(' ').append(x.canWin(r)).append(' ');
         }

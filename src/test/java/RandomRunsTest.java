@@ -12,6 +12,7 @@ public final class RandomRunsTest {
     private final PlainOffice y = new PlainOffice();
     private final int[] seen;
     private boolean differs;
+    private int calls;
 
     private interface Answer {
         Object get();
@@ -52,14 +53,14 @@ public final class RandomRunsTest {
         if (goesFar) {
             openSmall();
         }
-        for (int calls = goesFar ? 5 : 0; calls < CALLS && !differs; calls++) {
+        while (calls < CALLS && !differs) {
             int kind = random.nextInt(100);
             if (goesFar ? kind < 75 : kind < 55) {
                 step(goesFar ? 200 : 8);
             } else if (kind < 95 || goesFar) {
                 ask();
             } else if (kind < 97 || loadsOften) {
-                calls += typeText();
+                typeText();
                 compare("load()", () -> noteLoad(x.load()), y::load);
             } else {
                 anyChange();
@@ -84,7 +85,12 @@ public final class RandomRunsTest {
         }
     }
 
+    /** Makes a call of both, unless the run has made all its calls: what later calls answer is free. */
     private void compare(String call, Answer got, Answer due) {
+        if (calls == CALLS) {
+            return;
+        }
+        calls++;
         Object answer = answerOf(got);
         Object dueAnswer = answerOf(due);
         check.isSame("run " + run + ": " + call, answer, dueAnswer);
@@ -345,28 +351,24 @@ public final class RandomRunsTest {
 
     // ---- texts
 
-    private int typeText() {
+    private void typeText() {
         byte[] bytes = randomText().getBytes(java.nio.charset.StandardCharsets.ISO_8859_1);
-        return type(bytes, random.nextInt(20) > 0);
+        type(bytes, random.nextInt(20) > 0);
     }
 
-    /** Puts a text into both buffers, and cuts it to its length or not; returns how many calls that took. */
-    private int type(byte[] bytes, boolean isCut) {
-        int calls = 0;
+    /** Puts a text into both buffers, and cuts it to its length or not. */
+    private void type(byte[] bytes, boolean isCut) {
         for (int i = 0; i < bytes.length; i += 20) {
             byte[] piece = java.util.Arrays.copyOfRange(bytes, i, i + 20);
             java.nio.IntBuffer fours = java.nio.ByteBuffer.wrap(piece).asIntBuffer();
             int[] f = {fours.get(0), fours.get(1), fours.get(2), fours.get(3), fours.get(4)};
             compare("append", () -> x.append(f[0], f[1], f[2], f[3], f[4]),
                     () -> y.append(f[0], f[1], f[2], f[3], f[4]));
-            calls++;
         }
         if (isCut) {
             int length = Math.min(600, bytes.length);
             compare("truncate(" + length + ")", () -> x.truncate(length), () -> y.truncate(length));
-            calls++;
         }
-        return calls;
     }
 
     private String blank() {
