@@ -11,6 +11,7 @@ public final class AnswersTest {
 
     public static void main(String[] args) {
         officeWithoutBallot();
+        greatestTerm();
         officeAtItsLargest();
         candidateOrReason();
         setsOfTheFirstAndTheLast();
@@ -65,6 +66,15 @@ public final class AnswersTest {
             CHECK.is("office(" + what + "), never called", never.office(what), what <= 9 ? -1 : 0);
         }
         CHECK.is("the greatest TERM stays", x.office(15), 1);
+    }
+
+    /** "the greatest TERM of all replicas": also of those that are down, and not on the ROLL. */
+    private static void greatestTerm() {
+        CHECK.is("of those that are down", Check.opened(FOUR + "down 3; call 0; give; call 0; down 0; down 1; down 2; "
+                + "up 3;").office(15), 2);
+        CHECK.is("of those that were left out later", Check.opened(FIVE + "cut 3 0; cut 3 1; call 0; give; call 0; "
+                + "give; down 0; down 1; cut 2 4; cut 2 3;").office(15), 2);
+        CHECK.is("of none", Check.opened(FOUR).office(15), 0);
     }
 
     private static void officeAtItsLargest() {
@@ -242,7 +252,8 @@ public final class AnswersTest {
     /** As many votes as another one has: by TIES, by AGE and by number. */
     private static void canWinAtATie() {
         String votes = "call 0; vote 0 2 0; vote 1 2 0; vote 3 4 0; vote 4 4 0; close; break 0 2 0; break 1 2 0;";
-        String ages = "office replica 9 0; replica 8 0; replica 5 0; replica 5 0; replica 5 0; replica 4 0; replica 6 0;";
+        String ages = "office replica 9 0; replica 8 0; replica 5 0; replica 5 0; replica 5 0; replica 4 0; "
+                + "replica 6 0;";
         canWin("a tie by AGE and number", Check.opened(ages + votes), 1, 1, 1, 0, 0, 0, 1);
         canWin("a tie with TIES 0", Check.opened(ages + "ties 0;" + votes), 0, 0, 1, 0, 0, 0, 0);
         canWin("three left with TIES 0", Check.opened(ages + "ties 0;" + votes.replace("close", "vote 5 4 0; close")),
@@ -266,8 +277,8 @@ public final class AnswersTest {
         canWin("one is not on the ROLL", Check.opened(FIVE + "least 1; down 4;" + votes + "up 4;"), 1, 1, 1, 1, 0);
         canWin("some are more FRESH", Check.opened("office replica 1 5; replica 1 4; replica 1 3; replica 1 2; "
                 + "replica 1 1; least 3;" + votes), 1, 1, 0, 0, 0);
-        canWin("some are more FRESH, LEAST 4", Check.opened("office replica 1 5; replica 1 4; replica 1 3; replica 1 2; "
-                + "replica 1 1; least 4;" + votes), 1, 0, 0, 0, 0);
+        canWin("some are more FRESH, LEAST 4", Check.opened("office replica 1 5; replica 1 4; replica 1 3; "
+                + "replica 1 2; replica 1 1; least 4;" + votes), 1, 0, 0, 0, 0);
     }
 
     /** "NONE without a ballot, or if the voter is not on the ROLL": in each PHASE, whatever its vote is. */
@@ -349,9 +360,11 @@ public final class AnswersTest {
 
     /** "that are up, and linked with so many that are up that the ROLL would be more than half of all". */
     private static void callersByLinks() {
-        CHECK.is("one linked with one that is down", Check.opened(FIVE + "cut 0 1; cut 0 2; down 3;").callers(), 0b10110);
+        CHECK.is("one linked with one that is down", Check.opened(FIVE + "cut 0 1; cut 0 2; down 3;").callers(),
+                0b10110);
         CHECK.is("one linked with two that are up", Check.opened(FIVE + "cut 0 1; cut 0 2;").callers(), 0b11111);
-        CHECK.is("one linked with one that is up", Check.opened(FIVE + "cut 0 1; cut 0 2; cut 0 3;").callers(), 0b11110);
+        CHECK.is("one linked with one that is up", Check.opened(FIVE + "cut 0 1; cut 0 2; cut 0 3;").callers(),
+                0b11110);
         CHECK.is("the others are two", Check.opened(FOUR + "cut 0 1; down 2;").callers(), 0b1000);
         CHECK.is("though it called the ballot", Check.opened(FOUR + "call 0; cut 0 1; cut 0 2;").callers(), 0b1110);
         CHECK.is("one that is down and linked with all", Check.opened(FOUR + "down 3;").callers(), 0b0111);
@@ -362,8 +375,8 @@ public final class AnswersTest {
         CHECK.is("a hub", Check.opened(FIVE + "cut 1 2; cut 1 3; cut 1 4; cut 2 3; cut 2 4; cut 3 4;").vital(), 1);
         CHECK.is("a hub with just enough", Check.opened(FIVE + "cut 1 2; cut 1 3; cut 1 4; cut 2 3; cut 2 4; cut 3 4; "
                 + "down 3; down 4;").vital(), 0b00111);
-        CHECK.is("two rings of three that share one", Check.opened(FIVE + "cut 0 3; cut 0 4; cut 1 3; cut 1 4;").vital(),
-                0b00100);
+        CHECK.is("two rings of three that share one", Check.opened(FIVE + "cut 0 3; cut 0 4; cut 1 3; cut 1 4;")
+                .vital(), 0b00100);
         CHECK.is("one down that would be needed", Check.opened(FOUR + "down 0; down 1;").vital(), 0);
         CHECK.is("none could, though all are up", Check.opened("office replica 1 1; replica 1 1; cut 0 1;").vital(), 0);
     }
@@ -428,8 +441,8 @@ public final class AnswersTest {
         SealedBallots w = voted(NINE + "least 6;", 8, 8, 8, 8, 8);
         w.count();
         whyIs("it lacked one", w, 8, 7, 1);
-        SealedBallots v = Check.opened(NINE + "least 9; call 0; seal 0 0; seal 1 0; seal 2 0; seal 3 0; seal 4 0; close; "
-                + "break 0 0 0; break 1 0 0; break 2 0 0; break 3 0 0; break 4 0 0; count;");
+        SealedBallots v = Check.opened(NINE + "least 9; call 0; seal 0 0; seal 1 0; seal 2 0; seal 3 0; seal 4 0; "
+                + "close; break 0 0 0; break 1 0 0; break 2 0 0; break 3 0 0; break 4 0 0; count;");
         whyIs("it lacked nine", v, 0, 7, 9);
         whyIs("others had as many: none", v, 8, 5, 0);
     }
@@ -460,6 +473,14 @@ public final class AnswersTest {
         whyIs("given up", x, 1, 2, -1);
         x.restore(0);
         whyIs("restored", x, 1, 6, 2);
+        SealedBallots y = voted(FIVE, 0, 0, 1, 1, 2);
+        y.count();
+        y.set(1, 0);
+        whyIs("the one ahead by AGE, as TIES was 1", y, 2, 4, 1);
+        SealedBallots z = voted(FIVE + "ties 0;", 0, 0, 1, 1, 2);
+        z.count();
+        z.set(1, 1);
+        whyIs("the least of those with the most, as TIES was 0", z, 2, 4, 0);
         // AGE and votes are those of the count, but what is FRESH or up by now is not asked for
         x.setFresh(0, 9);
         x.setUp(1, false);

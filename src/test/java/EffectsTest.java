@@ -20,6 +20,7 @@ public final class EffectsTest {
         closeAndBreakNothingElse();
         countTellsThoseReached();
         recountSealsAgain();
+        recountBesideOneLeftSealed();
         recountForgetsOnTheRoll();
         recountsOfOneTerm();
         giveUpLeavesTheRest();
@@ -120,8 +121,8 @@ public final class EffectsTest {
 
     /** "The votes that are spoiled by the reason 1 are sealed again (with the number that they had)": these alone. */
     private static void recountSealsAgain() {
-        StringBuilder text = new StringBuilder("office" + " replica 5 5;".repeat(7) + "replica 5 4; replica 5 5; down 8;"
-                + "recounts 3; call 0;");
+        StringBuilder text = new StringBuilder("office" + " replica 5 5;".repeat(7) + "replica 5 4; replica 5 5; "
+                + "down 8; recounts 3; call 0;");
         int[] candidates = {1, 1, 8, 7, 6, 1, 1, 1};
         for (int r = 0; r < 8; r++) {
             text.append("vote ").append(r).append(' ').append(candidates[r]).append(' ').append(100 + r).append(';');
@@ -157,6 +158,23 @@ public final class EffectsTest {
         CHECK.is("recount of no vote", x.recount(7), 0);
         CHECK.is("the PHASE of it", x.office(5), 2);
         CHECK.isSame("the votes after it", Check.report(x), "11xxx111-");
+    }
+
+    /** "Returns how many votes are sealed again": not those that were left sealed because they were not reached. */
+    private static void recountBesideOneLeftSealed() {
+        SealedBallots x = Check.opened(FOUR + "call 0; vote 0 1 1; vote 1 1 1; vote 2 1 1; vote 3 1 1; close; "
+                + "break 0 1 1; break 1 1 2; down 3; break 2 1 1; count;");
+        CHECK.is("recount of one, beside one left sealed", x.recount(0), 1);
+        CHECK.is("sealed votes", x.office(10), 2);
+        SealedBallots y = Check.opened(FOUR + "call 0; vote 0 1 1; vote 1 1 1; vote 2 1 1; close; break 0 1 1; "
+                + "break 1 1 1; down 2; count;");
+        CHECK.is("recount of none, beside one left sealed", y.recount(0), 0);
+        CHECK.is("sealed votes", y.office(10), 1);
+        y.setUp(2, true);
+        CHECK.is("count while it is reached", y.count(), -12);
+        CHECK.is("its seal is broken then", y.breakSeal(2, 1, 1), 0);
+        CHECK.is("count", y.count(), 1);
+        CHECK.is("its valid votes", y.outcome(0, 2), 3);
     }
 
     /** "the replicas of the ROLL that know the one who was chosen as LEADER know none": not those off the ROLL. */

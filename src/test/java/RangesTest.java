@@ -104,7 +104,8 @@ public final class RangesTest {
         return new int[] {least, greatest, least - 1, greatest + 1, Integer.MIN_VALUE, Integer.MAX_VALUE}[kind];
     }
 
-    private static void oneCall(String title, int office, boolean throwsIndex, boolean throwsArgument, Check.Deed deed) {
+    private static void oneCall(String title, int office, boolean throwsIndex, boolean throwsArgument,
+            Check.Deed deed) {
         Check.Maker maker = () -> Check.opened(OFFICES[office]);
         if (!throwsArgument) {
             CHECK.isTrue(title + " does not throw", doesNotThrow(maker.make(), deed));

@@ -9,8 +9,8 @@ public final class TextEdgesTest {
     private static final int REPLICA = -1;
     private static final int[] ONE_REPLICA = {0, REPLICA};
     private static final int[] NONCE = {0, 999};
-    private static final String[] TOKENS = ("office replica 1 1 ; replica 1 1 ; least 1 ; ties 0 ; recounts 1 ; cut 0 1 ; "
-            + "join 0 1 ; down 1 ; up 1 ; call 0 ; vote 0 1 1 ; seal 1 1 ; close ; break 0 1 1 ; break 1 1 1 ; count ; "
+    private static final String[] TOKENS = ("office replica 1 1 ; replica 1 1 ; least 1 ; ties 0 ; recounts 1 ; "
+            + "cut 0 1 ; join 0 1 ; down 1 ; up 1 ; call 0 ; vote 0 1 1 ; seal 1 1 ; close ; break 0 1 1 ; break 1 1 1 ; count ; "
             + "recount 0 ; give ;").split(" ");
 
     private static final Check CHECK = new Check("TextEdgesTest");
@@ -266,13 +266,14 @@ public final class TextEdgesTest {
     private static void fewerThanTwoAndTen() {
         for (int replicas = 0; replicas <= 1; replicas++) {
             String ahead = "office " + "replica 5 5; ".repeat(replicas);
-            for (String deed : new String[] {"least", "ties", "recounts", "call", "vote", "seal", "close", "break", "count",
-                "recount", "give", "down", "up", "cut", "join"}) {
+            for (String deed : new String[] {"least", "ties", "recounts", "call", "vote", "seal", "close", "break",
+                "count", "recount", "give", "down", "up", "cut", "join"}) {
                 fails(ahead, deed, 3);
                 fails(ahead, deed + ";", 3);
                 fails(ahead + "\n ", deed + " 99999 ?", 3);
             }
-            for (String other : new String[] {"5", ";", "office", "replicas", "giv", "gives", "123456", "?", "\t", "GIVE"}) {
+            for (String other : new String[] {"5", ";", "office", "replicas", "giv", "gives", "123456", "?", "\t",
+                "GIVE"}) {
                 fails(ahead, other, 1);
                 fails(ahead, other + " give;", 1);
             }
