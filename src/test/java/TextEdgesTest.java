@@ -9,9 +9,10 @@ public final class TextEdgesTest {
     private static final int REPLICA = -1;
     private static final int[] ONE_REPLICA = {0, REPLICA};
     private static final int[] NONCE = {0, 999};
+    /** A text with each deed in it, of which none is refused. */
     private static final String[] TOKENS = ("office replica 1 1 ; replica 1 1 ; least 1 ; ties 0 ; recounts 1 ; "
-            + "cut 0 1 ; join 0 1 ; down 1 ; up 1 ; call 0 ; vote 0 1 1 ; seal 1 1 ; close ; break 0 1 1 ; break 1 1 1 ; count ; "
-            + "recount 0 ; give ;").split(" ");
+            + "cut 0 1 ; join 0 1 ; down 1 ; up 1 ; call 0 ; vote 0 1 1 ; seal 1 1 ; close ; break 0 1 1 ; "
+            + "break 1 1 1 ; count ; recount 0 ; give ;").split(" ");
 
     private static final Check CHECK = new Check("TextEdgesTest");
 
