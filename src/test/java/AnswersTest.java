@@ -25,12 +25,15 @@ public final class AnswersTest {
         nonceForEachVote();
         callersByLinks();
         vitalByLinks();
+        callersAndVitalInEachPhase();
+        gapInEachState();
         whyInItsOrder();
         whyAtTheLimits();
         whyOfTheLatest();
         turnoutOfEachRoll();
         meanAgeOfEachNumber();
         reportOfEachState();
+        reportOfAVoteLeftSealed();
         reportStays();
         CHECK.end();
     }
@@ -381,6 +384,56 @@ public final class AnswersTest {
         CHECK.is("none could, though all are up", Check.opened("office replica 1 1; replica 1 1; cut 0 1;").vital(), 0);
     }
 
+    /** "that could call a ballot now if there was none": the same in each PHASE, whoever is on the ROLL. */
+    private static void callersAndVitalInEachPhase() {
+        SealedBallots x = Check.opened(FOUR + "down 3;");
+        callersAndVital("no ballot", x, 7, 7);
+        x.call(0);
+        callersAndVital("PHASE 1", x, 7, 7);
+        x.vote(0, 1, 1);
+        x.vote(1, 1, 1);
+        x.close();
+        callersAndVital("PHASE 2", x, 7, 7);
+        x.setUp(3, true);
+        callersAndVital("PHASE 2, one not on the ROLL came up", x, 15, 0);
+        x.setLink(3, 1, false);
+        x.setLink(3, 2, false);
+        callersAndVital("PHASE 2, it is linked with one", x, 7, 1);
+        x.breakSeal(0, 1, 1);
+        x.breakSeal(1, 1, 1);
+        x.count();
+        callersAndVital("PHASE 3", x, 7, 1);
+        x.setUp(2, false);
+        callersAndVital("PHASE 3, one on the ROLL went down", x, 1, 11);
+        x.recount(0);
+        callersAndVital("a recount", x, 1, 11);
+        x.giveUp();
+        callersAndVital("given up", x, 1, 11);
+    }
+
+    private static void callersAndVital(String state, SealedBallots x, int callers, int vital) {
+        CHECK.is("callers(), " + state, x.callers(), callers);
+        CHECK.is("vital(), " + state, x.vital(), vital);
+    }
+
+    /** "(it is always 0)": in each PHASE, with replicas down, all down, links cut, and votes left sealed. */
+    private static void gapInEachState() {
+        String sealing = FOUR + "call 0; vote 0 1 1; vote 1 1 1; vote 2 3 1;";
+        String[] states = {FOUR, FOUR + "call 0;", sealing, sealing + "close;", sealing + "close; break 0 1 1;",
+            sealing + "close; break 0 1 2; down 3; break 1 1 1; break 2 3 1;",
+            sealing + "close; break 0 1 1; break 1 1 2; down 2; count;",
+            sealing + "close; break 0 1 1; break 1 1 2; down 2; count; up 2; recount 0;", sealing + "give;"};
+        for (String state : states) {
+            CHECK.is("gap() of " + state, Check.opened(state).gap(), 0);
+            CHECK.is("gap(), links cut, of " + state, Check.opened(state + "cut 0 1; cut 0 2; cut 0 3;").gap(), 0);
+            SealedBallots x = Check.opened(state);
+            for (int r = 0; r < 4; r++) {
+                x.setUp(r, false);
+                CHECK.is("gap(), " + r + " went down, of " + state, x.gap(), 0);
+            }
+        }
+    }
+
     private static void whyIs(String state, SealedBallots x, int replica, int reason, int cause) {
         CHECK.is("why(" + replica + ", 0), " + state, x.why(replica, 0), reason);
         CHECK.is("why(" + replica + ", 1), " + state, x.why(replica, 1), cause);
@@ -556,6 +609,19 @@ public final class AnswersTest {
         reportIs("PHASE 3", x, "4.x.0");
         x.recount(1);
         reportIs("a recount", x, "4.#.0");
+    }
+
+    /** "a hash sign if it is sealed": in the PHASE 3 too, if it was not reached at the count. */
+    private static void reportOfAVoteLeftSealed() {
+        SealedBallots x = Check.opened(FOUR + "call 0; vote 0 1 1; vote 1 1 1; vote 2 1 1; vote 3 1 1; close; "
+                + "break 0 1 1; break 1 1 2; down 2; cut 0 3; count;");
+        reportIs("votes left sealed", x, "1x##");
+        CHECK.is("what such a vote is", x.replica(2, 6), 1);
+        CHECK.is("its candidate or reason", x.replica(2, 7), -1);
+        CHECK.is("votes that are sealed and not broken", x.office(10), 2);
+        CHECK.is("turnout", Float.floatToRawIntBits(x.turnout()), Float.floatToRawIntBits(1.0f / 4.0f));
+        x.setUp(2, true);
+        reportIs("votes left sealed, reached again", x, "1x##");
     }
 
     private static void reportIs(String state, SealedBallots x, String due) {

@@ -27,6 +27,7 @@ public final class EffectsTest {
         goingDown();
         comingUp();
         linksForgetNobody();
+        linksWithThoseThatAreDown();
         CHECK.end();
     }
 
@@ -278,5 +279,17 @@ public final class EffectsTest {
         leadersAre("linked again", x, 1, 1, 1, 1);
         CHECK.is("links of 1", x.replica(1, 5), 0b1001);
         CHECK.is("links of 2", x.replica(2, 5), 0b1001);
+    }
+
+    /** "with how many others the first one is linked then": whether they are up or not, and it is up or not. */
+    private static void linksWithThoseThatAreDown() {
+        SealedBallots x = Check.opened(FOUR + "down 1; down 2;");
+        CHECK.is("cut from one that is up", x.setLink(0, 3, false), 2);
+        CHECK.is("cut from one that is down", x.setLink(0, 1, false), 1);
+        CHECK.is("cut by one that is down", x.setLink(1, 2, false), 1);
+        CHECK.is("join to one that is down", x.setLink(0, 1, true), 2);
+        CHECK.is("join by one that is down", x.setLink(2, 1, true), 3);
+        CHECK.is("others with which 0 is linked", x.replica(0, 5), 0b0110);
+        CHECK.is("others with which 2 is linked", x.replica(2, 5), 0b1011);
     }
 }

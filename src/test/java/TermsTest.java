@@ -19,6 +19,7 @@ public final class TermsTest {
         rollIsFixed();
         seals();
         sealsOfEachTerm();
+        termsGrow();
         spoiledByTheFirstReason();
         lessFresh();
         aheadAtACount();
@@ -239,6 +240,35 @@ public final class TermsTest {
         y.close();
         CHECK.is("the seal of the next TERM", y.breakSeal(0, 1, 5), 1);
         CHECK.is("the seal of the TERM before", y.breakSeal(1, 1, 5), 1);
+    }
+
+    /** "terms grow": to the greatest TERM that an object reaches in its 512 calls, by call and giveUp in turn. */
+    private static void termsGrow() {
+        SealedBallots x = new SealedBallots();
+        for (int term = 1; term <= 255; term++) {
+            CHECK.is("giveUp in TERM " + term, x.giveUp(), term);
+            CHECK.is("call after TERM " + term, x.call(term % 5), term + 1);
+        }
+        CHECK.is("TERM of the ballot", x.office(6), 256);
+        CHECK.is("the greatest TERM of all", x.office(15), 256);
+
+        SealedBallots y = Check.opened("office replica 5 5; replica 5 5;");
+        for (int term = 1; term < 240; term++) {
+            y.call(0);
+            y.giveUp();
+        }
+        CHECK.is("call", y.call(1), 240);
+        CHECK.is("vote", y.vote(0, 1, 999), 1);
+        CHECK.is("seal with the SEAL of the TERM", y.seal(1, y.sealFor(1, 998, 240)), 2);
+        y.close();
+        CHECK.is("nonceFor", y.nonceFor(0, 1), 999);
+        CHECK.is("breakSeal", y.breakSeal(0, 1, 999), 0);
+        CHECK.is("breakSeal", y.breakSeal(1, 1, 998), 0);
+        CHECK.is("count", y.count(), 1);
+        CHECK.is("TERM of the outcome", y.outcome(0, 0), 240);
+        CHECK.is("TERM of a replica", y.replica(0, 3), 240);
+        CHECK.is("why", y.why(0, 0), 4);
+        CHECK.is("gap", y.gap(), 0);
     }
 
     /**

@@ -32,6 +32,7 @@ public final class TextEdgesTest {
         fewerThanTwoAndTen();
         positionsBehindBlanks();
         fullBuffers();
+        asManyDeedsAsFit();
         bytesOfAnAppend();
         inItsOrder();
         CHECK.end();
@@ -306,6 +307,18 @@ public final class TextEdgesTest {
             fails(NINE + blanks, "replica 5 5;", 3);
             loads(TWO + blanks + "down 0" + blanks + ";" + blanks, 2);
         }
+    }
+
+    /** "All is done in its order": 114 deeds of 5 bytes each; the last one is done, and the last one can be refused. */
+    private static void asManyDeedsAsFit() {
+        String ahead = "office replica1 1;replica1 1;";
+        String deeds = "down0;up0;".repeat(57);
+        loads(ahead + deeds, 2);
+        CHECK.is("up after the last deed", Check.opened(ahead + deeds).office(1), 2);
+        CHECK.is("up ahead of the last deed", Check.opened(ahead + deeds.substring(0, 566)).office(1), 1);
+        fails(ahead + deeds.substring(0, 566) + "up1", ";", 4);
+        SealedBallots x = Check.opened(ahead + "call0;give;".repeat(51));
+        CHECK.is("the greatest TERM of all", x.office(15), 51);
     }
 
     /** "The text buffer has at most 600 bytes": a text that fills it to its last byte, and one byte more. */
